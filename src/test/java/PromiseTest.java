@@ -516,6 +516,16 @@ public final class PromiseTest {
         due("2000 uses", z.make(), 0);
         rule(z, 'd', repeat("<e>", 20));
         due("2002 uses", z.make(), NONE);
+        z.drop(23);
+        thing(z, "f", 'f', 22);
+        rule(z, 'd', repeat("<e>", 2));
+        rule(z, 'e', repeat("<f>", 18));
+        // 1961 + 1 + 2 * (1 + 18) = 2000
+        due("2000 uses, deeper", z.make(), 0);
+        rule(z, 'd', repeat("<e>", 3));
+        rule(z, 'e', repeat("<f>", 12));
+        // 1961 + 1 + 3 * (1 + 12) = 2001
+        due("2001 uses", z.make(), NONE);
     }
 
     // ---- promises 12 and 13
@@ -632,6 +642,14 @@ public final class PromiseTest {
         x.move(2, 0);
         x.make();
         due("they go with their things and items", shown(x), "tS-Ts");
+        hand(x, 0, "U");
+        x.move(2, 1);
+        x.make();
+        due("in another order", shown(x), "SU-sT");
+        hand(x, 1, "t");
+        x.move(2, 0);
+        x.make();
+        due("and back", shown(x), "tS-Ts");
         rule(x, 'a', "<b>+<b>");
         rule(x, 'b', "<0>");
         x.make();
@@ -916,6 +934,7 @@ public final class PromiseTest {
         due("drops 5", x.drops(5), false);
         due("drops -1", x.drops(-1), false);
         due("drops 1", x.drops(1), true);
+        due("ahead stays", loneText(x, 0), "A");
         due("forward", loneText(x, 1), "CCC");
         due("four", x.about(4), 4);
         due("none fell out", x.about(5), 0);
