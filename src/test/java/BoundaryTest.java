@@ -1762,6 +1762,14 @@ public final class BoundaryTest {
         s.denies("one that is gone", x -> x.move(4, 0));
         s.denies("a place that is gone", x -> x.move(1, 3));
         due("the last place then", s.call(x -> x.move(1, 2)), true);
+        Shop mixed = new Shop();
+        mixed.thing("r", 'a', NONE);
+        mixed.thing("b", 'b', 0);
+        mixed.thing("c", 'c', 0);
+        mixed.thing("d", 'd', 0);
+        mixed.denies("of three kinds, one too far", x -> x.move(1, 3));
+        mixed.changes("of three kinds, the last", x -> x.move(1, 2), true, "things");
+        due("places", mixed.thingOf(2, 2) + "" + mixed.thingOf(3, 2) + mixed.thingOf(1, 2), "012");
     }
 
     /** Things 1 to 4, "a" to "d", in thing 0, and thing 5 in thing 1. */

@@ -1,5 +1,4 @@
 import java.util.ArrayList;
-import java.util.Arrays;
 import java.util.HashMap;
 import java.util.List;
 import java.util.Map;
@@ -10,14 +9,15 @@ import java.util.regex.Pattern;
 
 /** Runs of calls with fixed seeds, against a workshop written in the plainest way; and wild arguments. */
 public final class RandomRunsTest {
-    private static final int RUNS = 3000;
+    private static final int RUNS = 16000;
+    private static final int MOST_CALLS = 512;
     private static final int WILD_RUNS = 300;
     private static int wrong = 0;
     private static final TreeMap<String, Integer> seen = new TreeMap<>();
 
     public static void main(String[] args) {
         for (int seed = 0; seed < RUNS && wrong == 0; seed++) {
-            new Run(seed).play(90);
+            new Run(seed).play();
         }
         for (int seed = 0; seed < WILD_RUNS && wrong == 0; seed++) {
             wild(seed);
@@ -46,12 +46,13 @@ public final class RandomRunsTest {
         int[] odd = {Integer.MIN_VALUE, Integer.MIN_VALUE + 1, -100, -2, -1, 0, 1, 2, 3, 4, 7, 8, 23, 24, 60, 61, 100,
             119, 120, 121, 249, 250, 99999, 100000, Integer.MAX_VALUE - 1, Integer.MAX_VALUE};
         try {
-            for (int i = 0; i < 512; i++) {
+            int left = MOST_CALLS;
+            while (left > 1) {
                 int[] a = new int[5];
                 for (int k = 0; k < 5; k++) {
                     a[k] = r.nextInt(3) == 0 ? r.nextInt() : r.nextBoolean() ? odd[r.nextInt(odd.length)] : r.nextInt(8) - 1;
                 }
-                callAny(x, r.nextInt(23), a);
+                left -= callAny(x, r.nextInt(23), a);
             }
         } catch (RuntimeException thrown) {
             wrong++;
@@ -59,62 +60,76 @@ public final class RandomRunsTest {
         }
     }
 
-    private static void callAny(MadeMended x, int which, int[] a) {
+    /** How many calls it made. */
+    private static int callAny(MadeMended x, int which, int[] a) {
         switch (which) {
-            case 0: x.feed(0x61413C6E, 0x3E3C303E, a[2], a[3], a[4]); break;
-            case 1: x.end(a[0]); break;
-            case 2: x.end(1); x.thing(a[0], a[1]); break;
-            case 3: x.number(a[0], a[1], a[2]); break;
-            case 4: x.name(a[0]); break;
-            case 5: x.move(a[0], a[1]); break;
-            case 6: x.drop(a[0]); break;
-            case 7: x.end(8); x.rule(a[0]); break;
-            case 8: x.fault(a[0]); break;
-            case 9: x.make(); break;
-            case 10: x.piece(a[0], a[1]); break;
-            case 11: x.byteOf(a[0], a[1], a[2]); break;
-            case 12: x.hand(a[0]); break;
-            case 13: x.take(a[0], a[1]); break;
-            case 14: x.back(a[0]); break;
-            case 15: x.touch(a[0], a[1], a[2], a[3]); break;
-            case 16: x.text(a[0]); break;
-            case 17: x.maker(a[0]); break;
-            case 18: x.lone(a[0], a[1], a[2]); break;
-            case 19: x.drops(a[0]); break;
-            case 20: x.thingOf(a[0], a[1]); break;
-            case 21: x.about(a[0]); break;
-            default: x.thing(0, -1); break;
+            case 0: x.feed(0x61413C6E, 0x3E3C303E, a[2], a[3], a[4]); return 1;
+            case 1: x.end(a[0]); return 1;
+            case 2: x.end(1); x.thing(a[0], a[1]); return 2;
+            case 3: x.number(a[0], a[1], a[2]); return 1;
+            case 4: x.name(a[0]); return 1;
+            case 5: x.move(a[0], a[1]); return 1;
+            case 6: x.drop(a[0]); return 1;
+            case 7: x.end(8); x.rule(a[0]); return 2;
+            case 8: x.fault(a[0]); return 1;
+            case 9: x.make(); return 1;
+            case 10: x.piece(a[0], a[1]); return 1;
+            case 11: x.byteOf(a[0], a[1], a[2]); return 1;
+            case 12: x.hand(a[0]); return 1;
+            case 13: x.take(a[0], a[1]); return 1;
+            case 14: x.back(a[0]); return 1;
+            case 15: x.touch(a[0], a[1], a[2], a[3]); return 1;
+            case 16: x.text(a[0]); return 1;
+            case 17: x.maker(a[0]); return 1;
+            case 18: x.lone(a[0], a[1], a[2]); return 1;
+            case 19: x.drops(a[0]); return 1;
+            case 20: x.thingOf(a[0], a[1]); return 1;
+            case 21: x.about(a[0]); return 1;
+            default: x.thing(0, -1); return 1;
         }
     }
 
     // ---- a run
+
+    private interface Call {
+        Object on(MadeMended x);
+    }
 
     private static final class Run {
         final int seed;
         final Random r;
         final MadeMended x = new MadeMended();
         final Plain o = new Plain();
-        final List<String> calls = new ArrayList<>();
+        final List<Call> calls = new ArrayList<>();
+        final List<String> told = new ArrayList<>();
+        MadeMended asked;
+        int left = 0;
 
         Run(int seed) {
             this.seed = seed;
             this.r = new Random(seed);
         }
 
-        void due(String call, Object got, Object want) {
-            calls.add(call + " = " + got);
+        void due(String call, Call c, Object want) {
+            calls.add(c);
+            Object got = c.on(x);
+            told.add(call + " = " + got);
+            hold(call, got, want);
+        }
+
+        void hold(String call, Object got, Object want) {
             if (!got.equals(want)) {
                 wrong++;
                 System.out.println("run " + seed + ": " + call + " answered " + got + ", due is " + want);
-                for (String c : calls) {
+                for (String c : told) {
                     System.out.println("    " + c);
                 }
             }
         }
 
         void tape(String text) {
-            if (r.nextInt(12) > 0) {
-                due("end 0", x.end(0), o.end(0));
+            if (!o.tape.isEmpty() && r.nextInt(12) > 0) {
+                due("end 0", x -> x.end(0), o.end(0));
             }
             int had = o.tape.length();
             for (int from = 0; from < text.length(); from += 20) {
@@ -125,9 +140,9 @@ public final class RandomRunsTest {
                     part.append((char) b);
                     w[i / 4] |= b << (24 - i % 4 * 8);
                 }
-                due("feed " + part, x.feed(w[0], w[1], w[2], w[3], w[4]), o.feed(part.toString()));
+                due("feed " + part, x -> x.feed(w[0], w[1], w[2], w[3], w[4]), o.feed(part.toString()));
             }
-            due("end", x.end(had + text.length()), o.end(had + text.length()));
+            due("end", x -> x.end(had + text.length()), o.end(had + text.length()));
         }
 
         int someThing() {
@@ -157,7 +172,8 @@ public final class RandomRunsTest {
             String[] good = {"w", "ab ", "<n>", "<0>", "<1>", "<2>", "<3>", "<+01>", "<+23>", "<=>", "<=>", "<a>", "<b>",
                 "<c>", "<a>", "<b>", "<c>", "<<>", ">", "<0>"};
             String[] bad = {"<?0>", "<!>", "<", "<4>", "\u0001", "\u007f", "\u00ff", "<+0>", "<nn>", "<i>"};
-            int n = r.nextInt(4) == 0 ? r.nextInt(20) : r.nextInt(7);
+            // Some runs have long rules throughout, as texts are hardly ever FULL otherwise.
+            int n = seed % 4 == 2 ? 4 + r.nextInt(10) : r.nextInt(4) == 0 ? r.nextInt(20) : r.nextInt(7);
             boolean faulty = r.nextInt(8) == 0;
             StringBuilder s = new StringBuilder();
             for (int i = 0; i < n && s.length() < 110; i++) {
@@ -182,141 +198,200 @@ public final class RandomRunsTest {
             return r.nextInt(25) == 0 ? "q".repeat(58 + r.nextInt(5)) : some[r.nextInt(some.length)];
         }
 
+        void thing(int kind, int in) {
+            tape(someName());
+            due("thing " + kind + " " + in, x -> x.thing(kind, in), o.thing(kind, in));
+        }
+
+        void number(int t, int j, int v) {
+            due("number " + t + " " + j + " " + v, x -> x.number(t, j, v), o.number(t, j, v));
+        }
+
+        void rule(int kind) {
+            tape(someRule());
+            due("rule " + kind, x -> x.rule(kind), o.rule(kind));
+        }
+
         /** A forest to begin with, as some things are only seen in large ones. */
         void plant(int things) {
             for (int i = 0; i < things; i++) {
-                tape(someName());
-                int kind = r.nextInt(3);
-                int in = r.nextInt(4) == 0 ? -1 : r.nextInt(3 + i / 3);
-                due("thing " + kind + " " + in, x.thing(kind, in), o.thing(kind, in));
-                for (int j = 0; j < 4; j++) {
-                    due("number", x.number(i, j, (i + j) % 2), o.number(i, j, (i + j) % 2));
-                }
+                thing(r.nextInt(3), r.nextInt(4) == 0 ? -1 : r.nextInt(3 + i / 3));
+                number(i, r.nextInt(4), r.nextInt(2));
             }
             for (int kind = 0; kind < 3; kind++) {
-                tape(someRule());
-                due("rule " + kind, x.rule(kind), o.rule(kind));
+                rule(kind);
             }
         }
 
-        void play(int steps) {
+        /** Ends at some call or other, far enough ahead of the last one that an object is used for. */
+        void play() {
+            int most = 80 + r.nextInt(340);
             plant(seed % 3 == 0 ? 0 : r.nextInt(24));
-            for (int i = 0; i < steps && wrong == 0; i++) {
-                step(r.nextInt(26));
-                if (i % 3 == 0) {
-                    compare();
-                }
+            due("make", MadeMended::make, o.make());
+            while (calls.size() < most && wrong == 0) {
+                // Some runs are of hands, rules and numbers above all, as little comes of one alone.
+                step(seed % 4 == 1 && r.nextInt(3) > 0 ? 5 + r.nextInt(12) : r.nextInt(26));
+                askSome();
             }
             compare();
         }
 
         void step(int what) {
             int t = someThing();
-            int p = somePiece();
             int j = r.nextInt(30) == 0 ? r.nextInt(7) - 2 : r.nextInt(4);
             int v = someNumber();
             int kind = r.nextInt(25) == 0 ? r.nextInt(12) - 2 : r.nextInt(3);
             if (what < 5) {
-                tape(someName());
-                int in = r.nextInt(3) == 0 ? -1 : t;
-                due("thing " + kind + " " + in, x.thing(kind, in), o.thing(kind, in));
+                thing(kind, r.nextInt(3) == 0 ? -1 : t);
             } else if (what < 8) {
-                tape(someRule());
-                due("rule " + kind, x.rule(kind), o.rule(kind));
+                rule(kind);
             } else if (what < 11) {
-                due("make", x.make(), o.make());
+                due("make", MadeMended::make, o.make());
             } else if (what < 14) {
-                for (int n = r.nextInt(r.nextInt(4) == 0 ? 40 : 6); n >= 0; n--) {
-                    tape(someHand());
-                    p = somePiece();
-                    due("hand " + p, x.hand(p), o.hand(p));
-                }
+                hands(r.nextInt(r.nextInt(4) == 0 ? 40 : 6));
             } else if (what < 17) {
-                due("number " + t + " " + j + " " + v, x.number(t, j, v), o.number(t, j, v));
+                number(t, j, v);
             } else if (what == 17) {
                 tape(someName());
-                due("name " + t, x.name(t), o.name(t));
+                due("name " + t, x -> x.name(t), o.name(t));
             } else if (what == 18) {
                 int k = r.nextInt(6) - 1;
-                due("move " + t + " " + k, x.move(t, k), o.move(t, k));
+                due("move " + t + " " + k, x -> x.move(t, k), o.move(t, k));
             } else if (what == 19) {
                 if (r.nextInt(3) == 0) {
-                    due("drop " + t, x.drop(t), o.drop(t));
+                    due("drop " + t, x -> x.drop(t), o.drop(t));
                 }
             } else if (what == 20) {
                 clashes();
             } else if (what == 21) {
                 numbersBack();
             } else if (what < 25) {
-                for (int w = -1; w < 5; w++) {
-                    due("touch " + t + " " + j + " " + v + " " + w, x.touch(t, j, v, w), o.touch(t, j, v, w));
-                }
+                touches(t, j, v);
             } else {
                 int l = r.nextInt(o.lones.size() + 2) - 1;
-                due("drops " + l, x.drops(l), o.drops(l));
+                due("drops " + l, x -> x.drops(l), o.drops(l));
+            }
+        }
+
+        boolean isLate() {
+            return calls.size() > MOST_CALLS - 90 || wrong > 0;
+        }
+
+        void hands(int most) {
+            for (int n = 0; n <= most && !isLate(); n++) {
+                tape(someHand());
+                int p = somePiece();
+                due("hand " + p, x -> x.hand(p), o.hand(p));
             }
         }
 
         void clashes() {
-            for (int p = -1; p <= o.pieces.size(); p++) {
+            for (int n = -1; n <= o.pieces.size() && !isLate(); n++) {
+                int p = n;
                 int which = r.nextInt(12) == 0 ? r.nextInt(5) - 2 : r.nextInt(2);
-                if (r.nextBoolean()) {
-                    due("take " + p + " " + which, x.take(p, which), o.take(p, which));
+                if (o.piece(p, 6) == 1 ? r.nextBoolean() : r.nextInt(30) == 0) {
+                    due("take " + p + " " + which, x -> x.take(p, which), o.take(p, which));
                 }
             }
         }
 
         void numbersBack() {
             int most = o.pieces.size();
-            for (int p = -1; p <= most && wrong == 0; p++) {
-                if (r.nextInt(3) == 0) {
-                    due("back " + p, x.back(p), o.back(p));
+            for (int n = -1; n <= most && !isLate(); n++) {
+                int p = n;
+                if (o.piece(p, 5) == 1 && o.piece(p, 2) == 2 ? r.nextBoolean() : r.nextInt(30) == 0) {
+                    due("back " + p, x -> x.back(p), o.back(p));
                 }
             }
         }
 
-        void same(String call, int got, int want, int... args) {
+        void touches(int t, int j, int v) {
+            for (int w = -1; w < 5; w++) {
+                int what = w;
+                due("touch " + t + " " + j + " " + v + " " + w, x -> x.touch(t, j, v, what), o.touch(t, j, v, what));
+            }
+        }
+
+        /** A question between the calls, so that one that changes something is seen. */
+        void askSome() {
+            int p = somePiece();
+            int t = someThing();
+            int what = r.nextInt(10);
+            int at = r.nextInt(o.shown().length() + 2) - 1;
+            switch (r.nextInt(4)) {
+                case 0: due("about " + what, x -> x.about(what), o.about(what)); break;
+                case 1: due("piece " + p + " " + what, x -> x.piece(p, what), o.piece(p, what)); break;
+                case 2: due("thingOf " + t + " " + what, x -> x.thingOf(t, what), o.thingOf(t, what)); break;
+                default: due("text " + at, x -> x.text(at), Plain.charOf(o.shown(), at)); break;
+            }
+        }
+
+        /** Asks objects to which all the calls came anew, as none is used for more calls than it is promised for. */
+        void same(String question, Call c, int want) {
+            if (left == 0) {
+                asked = new MadeMended();
+                for (Call call : calls) {
+                    call.on(asked);
+                }
+                left = MOST_CALLS - calls.size();
+            }
+            left--;
+            int got = (int) c.on(asked);
             if (got != want) {
-                due(call + " " + Arrays.toString(args), got, want);
+                hold(question, got, want);
             }
         }
 
         void compare() {
-            for (int what = -2; what < 20; what++) {
-                same("about", x.about(what), o.about(what), what);
+            left = 0;
+            for (int n = -1; n < 19; n++) {
+                int what = n;
+                same("about", x -> x.about(what), o.about(what));
+                same("fault", x -> x.fault(what), o.fault(what));
             }
-            for (int what = -1; what < 3; what++) {
-                same("fault", x.fault(what), o.fault(what), what);
-            }
-            for (int t = -1; t < 25; t++) {
-                for (int what = -1; what < 108; what++) {
-                    same("thingOf", x.thingOf(t, what), o.thingOf(t, what), t, what);
+            for (int n = -1; n < 25; n++) {
+                int t = n;
+                for (int what : new int[] {0, 1, 2, 3, 4, 9, 10, 11, 12, 13, 14, 99, 100, 101, 102, 103, 104, 105, 106}) {
+                    same("thingOf", x -> x.thingOf(t, what), o.thingOf(t, what));
                 }
             }
             comparePieces();
             String shown = o.shown();
-            for (int at = -1; at <= shown.length(); at++) {
-                same("text", x.text(at), Plain.charOf(shown, at), at);
-                same("maker", x.maker(at), o.maker(at), at);
+            for (int n = -1; n <= shown.length(); n++) {
+                int at = n;
+                same("text", x -> x.text(at), Plain.charOf(shown, at));
+                same("maker", x -> x.maker(at), o.maker(at));
             }
-            for (int l = -1; l <= o.lones.size(); l++) {
-                for (int what = -1; what < 5; what++) {
-                    for (int i = -1; i < 4; i++) {
-                        same("lone", x.lone(l, what, i), o.lone(l, what, i), l, what, i);
-                    }
+            compareLones();
+        }
+
+        void compareLones() {
+            for (int n = -1; n <= o.lones.size(); n++) {
+                int l = n;
+                for (int what = 1; what < 5; what++) {
+                    int w = what;
+                    same("lone", x -> x.lone(l, w, 0), o.lone(l, w, 0));
+                }
+                for (int k = -1; k <= Math.max(0, o.lone(l, 3, 0)); k++) {
+                    int i = k;
+                    same("lone", x -> x.lone(l, 0, i), o.lone(l, 0, i));
                 }
             }
         }
 
         void comparePieces() {
-            for (int p = -1; p <= o.pieces.size(); p++) {
-                for (int what = -1; what < 10; what++) {
-                    same("piece", x.piece(p, what), o.piece(p, what), p, what);
+            for (int n = -1; n <= o.pieces.size(); n++) {
+                int p = n;
+                for (int what = 0; what < 10; what++) {
+                    int w = what;
+                    same("piece", x -> x.piece(p, w), o.piece(p, w));
                 }
-                for (int what = -1; what < 4; what++) {
-                    int most = Math.max(o.piece(p, 3), o.piece(p, 4)) + 1;
-                    for (int i = -1; i <= most; i++) {
-                        same("byteOf", x.byteOf(p, what, i), o.byteOf(p, what, i), p, what, i);
+                int most = Math.max(o.piece(p, 3), o.piece(p, 4));
+                for (int what = 0; what < 4; what++) {
+                    for (int k = -1; k <= most; k++) {
+                        int w = what;
+                        int i = k;
+                        same("byteOf", x -> x.byteOf(p, w, i), o.byteOf(p, w, i));
                     }
                 }
             }
